@@ -620,23 +620,31 @@ public final class IntFile {
             addAt(to, half + 1, x + half, many - half);
         }
 
+        /** Adds the second number to the first, which has as many limbs at least. */
         private void addAt(int to, int toMany, int from, int many) {
             long carry = 0;
-            for (int i = 0; i < toMany && (i < many || carry != 0); i++) {
-                long more = i < many ? row[from + i] & Whole.LOW : 0;
-                long sum = (row[to + i] & Whole.LOW) + more + carry;
+            for (int i = 0; i < many; i++) {
+                long sum = (row[to + i] & Whole.LOW) + (row[from + i] & Whole.LOW) + carry;
                 row[to + i] = (int) sum;
                 carry = sum >>> Whole.LIMB_BITS;
             }
+            for (int i = many; i < toMany && carry != 0; i++) {
+                row[to + i]++;
+                carry = row[to + i] == 0 ? 1 : 0;
+            }
         }
 
+        /** Takes the second number away from the first, which has as many limbs at least. */
         private void subtractAt(int to, int toMany, int from, int many) {
             long borrow = 0;
-            for (int i = 0; i < toMany && (i < many || borrow != 0); i++) {
-                long less = i < many ? row[from + i] & Whole.LOW : 0;
-                long rest = (row[to + i] & Whole.LOW) - less - borrow;
+            for (int i = 0; i < many; i++) {
+                long rest = (row[to + i] & Whole.LOW) - (row[from + i] & Whole.LOW) - borrow;
                 row[to + i] = (int) rest;
                 borrow = rest < 0 ? 1 : 0;
+            }
+            for (int i = many; i < toMany && borrow != 0; i++) {
+                row[to + i]--;
+                borrow = row[to + i] == -1 ? 1 : 0;
             }
         }
     }
@@ -724,7 +732,7 @@ public final class IntFile {
             return digit;
         }
 
-        /** Answers whether more was taken than there was. */
+        /** Answers whether more was taken than there was. No later step looks at the limb above: it stays as it is. */
         private boolean takeProduct(long digit, int j, int many) {
             long carry = 0;
             for (int i = 0; i < many; i++) {
@@ -733,9 +741,7 @@ public final class IntFile {
                 over[j + i] = (int) left;
                 carry = (product >>> Whole.LIMB_BITS) + (left < 0 ? 1 : 0);
             }
-            long left = (over[j + many] & Whole.LOW) - carry;
-            over[j + many] = (int) left;
-            return left < 0;
+            return (over[j + many] & Whole.LOW) < carry;
         }
 
         private void giveBack(int j, int many) {
@@ -745,7 +751,6 @@ public final class IntFile {
                 over[j + i] = (int) sum;
                 carry = sum >>> Whole.LIMB_BITS;
             }
-            over[j + many] += (int) carry;
         }
 
         private static boolean isAbove(long x, long y) {
