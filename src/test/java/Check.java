@@ -3,14 +3,20 @@ import java.math.BigInteger;
 /** What the tests share: they count the answers that are not due, and move numbers to and from registers. */
 final class Check {
     private static int wrong = 0;
+    private static String sentence = "";
 
     private Check() {
+    }
+
+    /** From here on answers that are not due are told with the sentence of the document that they break. */
+    static void sentence(String words) {
+        sentence = "[" + words + "] ";
     }
 
     static void due(String call, long got, long want) {
         if (got != want) {
             wrong++;
-            System.out.println(call + " answered " + got + ", due is " + want);
+            System.out.println(sentence + call + " answered " + got + ", due is " + want);
         }
     }
 
@@ -41,6 +47,17 @@ final class Check {
             due(register + ", limb " + i, x.limb(r, i), limbs[i]);
         }
         due(register + ", limb behind the last", x.limb(r, limbs.length), 0);
+    }
+
+    /** Four calls, however long it is. */
+    static void holdsAtItsEnds(String what, IntFile x, int r, BigInteger want) {
+        int[] limbs = limbsOf(want);
+        int last = Math.max(0, limbs.length - 1);
+        String register = what + ": register " + r;
+        due(register + ", sign", x.sign(r), want.signum());
+        due(register + ", length 1", x.length(r, 1), want.abs().bitLength());
+        due(register + ", lowest limb", x.limb(r, 0), want.abs().intValue());
+        due(register + ", highest limb", x.limb(r, last), limbs.length == 0 ? 0 : limbs[last]);
     }
 
     static void holds(String what, IntFile x, int r, long want) {
@@ -77,6 +94,15 @@ final class Check {
 
     static BigInteger two(int power) {
         return BigInteger.ONE.shiftLeft(power);
+    }
+
+    /** The greatest number that has room. */
+    static BigInteger most(int width) {
+        return two(32 * width).subtract(BigInteger.ONE);
+    }
+
+    static BigInteger big(long value) {
+        return BigInteger.valueOf(value);
     }
 
     static void end() {
